@@ -1,15 +1,22 @@
 /** Long runs of calls, made up by a counter, on KitePermits and on Model; all answers must agree. */
 final class ModelTest {
-    private static final int RUNS = 250;
+    private static final int RUNS = 300;
     private static final int CALLS = 450;
+    // Some runs are made so that many strings cross, some so that many permits are granted.
+    private static final int MIXED = 0;
+    private static final int CROWDED = 1;
+    private static final int PERMITTING = 2;
 
     private long seed;
     private KitePermits x;
     private Model m;
     private final StringBuilder log = new StringBuilder();
 
+    private final int kind;
+
     private ModelTest(long seed) {
         this.seed = seed * 7919 + 17;
+        kind = (int) (seed % 3);
     }
 
     private int below(int n) {
@@ -71,6 +78,28 @@ final class ModelTest {
     }
 
     private String setup() {
+        return kind == MIXED ? mixedSetup() : smallSetup();
+    }
+
+    private String smallSetup() {
+        StringBuilder b = new StringBuilder("field " + from(10, 16) + " " + from(10, 16) + " ");
+        b.append(kind == PERMITTING ? from(0, 1) : from(0, 3)).append(' ').append(from(0, 50)).append(';');
+        for (int z = from(1, 2); z > 0; z--) {
+            b.append("zone");
+            for (int w = from(1, 4); w > 0; w--) {
+                b.append(' ').append(from(0, 7)).append(' ').append(from(kind == PERMITTING ? 5 : 2, 9));
+            }
+            b.append(';');
+        }
+        b.append(kind == PERMITTING ? "colour 9;colour 9;" : "colour 3;colour 2;");
+        for (int k = from(5, 14); k > 0; k--) {
+            b.append(item("kite", "" + from(2, 8), "" + from(2, 8), "" + from(1, kind == PERMITTING ? 3 : 6),
+                    "" + from(0, 1), "" + from(0, 1), "" + from(0, 200)));
+        }
+        return b.toString();
+    }
+
+    private String mixedSetup() {
         StringBuilder b = new StringBuilder(blank(false));
         int width = chance(70) ? from(10, 30) : from(10, 100);
         int height = chance(70) ? from(10, 30) : from(10, 100);
@@ -98,11 +127,11 @@ final class ModelTest {
     }
 
     private String command() {
-        switch (below(8)) {
+        switch (kind == MIXED ? below(8) : new int[] {0, 0, 2, 3, 3, 3, 5, 6, 7}[below(9)]) {
             case 0: return item("launch", number(0, chance(90) ? 6 : 15));
             case 1: return item("land", number(0, chance(90) ? 6 : 15));
             case 2: return item("hours", number(1, chance(90) ? 3 : 48));
-            case 3: return item("permit", number(0, 15), number(m.s.hour, m.s.hour + 20), number(1, chance(90) ? 4 : 24));
+            case 3: return item("permit", number(0, 15), number(m.s.hour, m.s.hour + (kind == PERMITTING ? 300 : 20)), number(1, chance(90) ? 4 : 24));
             case 4: return item("cancel", number(0, 15));
             case 5: return item("tie", number(0, 15), number(0, 9));
             case 6: return item("repair", number(0, 15));
@@ -159,12 +188,15 @@ final class ModelTest {
     }
 
     private int hour() {
-        return chance(80) ? Math.max(0, m.s.hour + from(-3, 25)) : around(0, 999999);
+        int ahead = kind == PERMITTING && chance(80) ? 300 : 25;
+        return chance(80) ? Math.max(0, m.s.hour + from(-3, ahead)) : around(0, 999999);
     }
 
     private void change() {
         int k = kite();
-        switch (below(16)) {
+        int[] crowded = {0, 0, 0, 0, 4, 4, 6, 6, 12, 12, 14, 15};
+        int[] permitting = {0, 4, 6, 6, 6, 6, 6, 6, 6, 10, 11, 14};
+        switch (kind == MIXED ? below(16) : (kind == CROWDED ? crowded : permitting)[below(12)]) {
             case 0: case 1: case 2:
                 both("launch(" + k + ")", () -> x.launch(k), () -> m.launch(k)); break;
             case 3:
@@ -288,7 +320,7 @@ final class ModelTest {
         }
         for (int call = 0; call < CALLS && !Check.anyWrong(); call++) {
             int what = below(100);
-            if (what < 2) {
+            if (what < 2 && (kind == MIXED || chance(20))) {
                 text(true);
             } else if (what < 6) {
                 text(false);

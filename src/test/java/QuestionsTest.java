@@ -199,6 +199,8 @@ final class QuestionsTest {
         k.cancelPermits(0);
         Check.same("the one without a permit", k.guiltyKite(2, 0), 0);
         k.permit(0, 1, 1);
+        Check.same("a permit for the next hour does not count", k.guiltyKite(0, 2), 0);
+        Check.same("a permit for the next hour does not count", k.guiltyKite(2, 0), 0);
         k.passHours(1);
         Check.same("only the present hour counts", k.guiltyKite(0, 2), 2);
         k.passHours(1);

@@ -149,6 +149,33 @@ final class SetupTest {
         Check.same("the small field", k.width(), 10);
     }
 
+    /** Promise 6: nothing of the state before, nor of a setup with an error, is left. */
+    private static void startsAnew() {
+        KitePermits k = Check.office("field 40 20 1 3;zone 2 5 2 4 2 3;zone 0 1;zone 3 3;colour 9;colour 9;"
+                + "kite 0 5 9 0 0 90;kite 1 5 9 0 1 90;kite 30 5 9 1 0 90;");
+        k.permit(0, 4, 2);
+        k.launch(0);
+        k.launch(1);
+        k.passHours(2);
+        k.repair(1);
+        Check.same("a forecast", k.verdictsIn(3), 0);
+        Check.feed(k, "field 50 50 9 9;zone 1 1 2 2;zone 3 3;colour 8;colour 7;colour 6;kite 9 9 9 2 9 9;kite 50");
+        Check.badArgument("an error at the end", () -> k.loadSetup());
+        Check.same("the state stays", k.hour(), 2);
+        Check.feed(k, "field 20 30 0 0;zone 7 9;colour 1;kite 9 9 5 0 0 5;kite 8 9 5 0 0 6;");
+        Check.same("two kites", k.loadSetup(), 2);
+        int[] got = {k.width(), k.height(), k.hour(), k.zoneCount(), k.windDirection(0, 1), k.windForce(0, 2), k.colourCount(),
+            k.quota(0), k.permitCount(), k.officeCoins(), k.coinError(), k.stateOf(0), k.stateOf(1), k.tangles(0), k.tangles(1),
+            k.knots(1), k.purse(0), k.zoneOf(0)};
+        int[] due = {20, 30, 0, 1, 7, 9, 1, 1, 0, 0, 0, 0, 0, 0, 0, 0, 5, 0};
+        for (int i = 0; i < due.length; i++) {
+            Check.same("number " + i + " of the new state", got[i], due[i]);
+        }
+        Check.noKite("zone 1", () -> k.windForce(1, 0));
+        Check.noKite("colour 1", () -> k.quota(1));
+        Check.noKite("kite 2", () -> k.purse(2));
+    }
+
     private static void spaces() {
         good(FIELD + ZONE + COLOUR, 0);
         good(FIELD + ZONE + COLOUR + KITE, 1);
@@ -255,6 +282,7 @@ final class SetupTest {
         newObject();
         loaded();
         staysUndoable();
+        startsAnew();
         spaces();
         syntax();
         ranges();

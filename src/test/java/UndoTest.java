@@ -93,6 +93,28 @@ final class UndoTest {
         Check.same("coinError", k.coinError(), 0);
     }
 
+    /** Promises 17 and 19: the permits come back with all their numbers, in their order. */
+    private static void permitsComeBack() {
+        KitePermits k = new KitePermits();
+        k.permit(0, 1, 1);
+        k.permit(1, 3, 2);
+        k.permit(2, 5, 1);
+        k.saveSnapshot(0);
+        k.cancelPermits(0);
+        k.permit(0, 7, 3);
+        Check.same("three permits", Check.output(k), "1:3+2 2:5+1 0:7+3");
+        k.undo();
+        Check.same("without the last", Check.output(k), "1:3+2 2:5+1");
+        k.undo();
+        Check.same("as they were granted", Check.output(k), "0:1+1 1:3+2 2:5+1");
+        k.passHours(10);
+        k.permit(1, 20, 4);
+        k.restoreSnapshot(0);
+        Check.same("as in the snapshot", Check.output(k), "0:1+1 1:3+2 2:5+1");
+        k.undo();
+        Check.same("as before the restoring", Check.output(k), "1:20+4");
+    }
+
     /** Promise 17: what changes nothing can be undone as well, and what throws cannot. */
     private static void emptyChanges() {
         KitePermits k = new KitePermits();
@@ -187,6 +209,7 @@ final class UndoTest {
     public static void main(String[] args) {
         eightChanges();
         everyChange();
+        permitsComeBack();
         emptyChanges();
         launchOrder();
         untouched();
