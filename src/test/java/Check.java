@@ -2,6 +2,7 @@
 final class Check {
     private static int wrong = 0;
     private static int compared = 0;
+    private static String sentence = "";
 
     private Check() {
     }
@@ -12,6 +13,27 @@ final class Check {
 
     interface Act {
         void run();
+    }
+
+    interface Maker {
+        KitePermits make();
+    }
+
+    interface Use {
+        long of(KitePermits k);
+    }
+
+    interface UseOf {
+        long of(KitePermits k, int value);
+    }
+
+    /** Names the sentence of the document that the comparisons from here on test. */
+    static void sentence(String text) {
+        sentence = text;
+    }
+
+    static void sentence(int promise, String text) {
+        sentence = "Promise " + promise + ": " + text;
     }
 
     static void same(String what, long got, long due) {
@@ -61,6 +83,25 @@ final class Check {
         fails(what, IllegalStateException.class, act);
     }
 
+    /** A call that throws what is due and changes nothing that can be asked for. */
+    static void refused(String what, Class<?> due, KitePermits k, Use use) {
+        String before = Picture.of(k);
+        fails(what, due, () -> use.of(k));
+        same(what + " changes nothing", Picture.of(k), before);
+    }
+
+    /** The values low and high are taken, each by a new office, and those outside are refused. */
+    static void bounds(String what, int low, int high, Class<?> due, Maker maker, UseOf use) {
+        for (int value : new int[] {low, high}) {
+            KitePermits k = maker.make();
+            String answer = outcome(() -> use.of(k, value));
+            same(what + " with " + value + " throws", answer.startsWith("throws"), false);
+        }
+        for (int value : new int[] {low - 1, high + 1, Integer.MIN_VALUE, Integer.MAX_VALUE}) {
+            refused(what + " with " + value, due, maker.make(), k -> use.of(k, value));
+        }
+    }
+
     static String outcome(Call call) {
         try {
             return Long.toString(call.answer());
@@ -72,7 +113,7 @@ final class Check {
     static void report(String text) {
         wrong++;
         if (wrong <= 50) {
-            System.out.println(text);
+            System.out.println(sentence.isEmpty() ? text : "\"" + sentence + "\" " + text);
         }
     }
 
